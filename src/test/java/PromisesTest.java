@@ -40,24 +40,6 @@ public final class PromisesTest {
         Due.end();
     }
 
-    /** Every HALF of STRIPE s gets a number of its own that is not 0. */
-    private static long number(int place, int half) {
-        return (place + 1) * 0x9E3779B97F4A7C15L + half * 0x0123456789ABCDEFL;
-    }
-
-    private static void fillStripe(ParityDisks x, int stripe) {
-        for (int place = 4 * stripe; place < 4 * stripe + 4; place++) {
-            for (int half = 0; half < 2; half++) {
-                x.write(place, half, number(place, half));
-            }
-        }
-    }
-
-    private static long parityOf(int stripe, int half) {
-        return number(4 * stripe, half) ^ number(4 * stripe + 1, half)
-            ^ number(4 * stripe + 2, half) ^ number(4 * stripe + 3, half);
-    }
-
     private static void promise1NewObject() {
         for (int disk = 0; disk < 5; disk++) {
             ParityDisks x = new ParityDisks();
@@ -109,13 +91,13 @@ public final class PromisesTest {
         for (int stripe : new int[] {0, 1, 2, 3, 4, 5, 57, 99}) {
             for (int failed = 0; failed < 5; failed++) {
                 ParityDisks x = new ParityDisks();
-                fillStripe(x, stripe);
+                Stripes.fill(x, stripe);
                 x.fail(failed);
                 for (int place = 4 * stripe; place < 4 * stripe + 4; place++) {
                     int p = place;
                     String after = ") after fail(" + failed + ")";
-                    Due.answers("2: read(" + p + ", 0" + after, number(p, 0), () -> x.read(p, 0));
-                    Due.answers("2: read(" + p + ", 1" + after, number(p, 1), () -> x.read(p, 1));
+                    Due.answers("2: read(" + p + ", 0" + after, Stripes.number(p, 0), () -> x.read(p, 0));
+                    Due.answers("2: read(" + p + ", 1" + after, Stripes.number(p, 1), () -> x.read(p, 1));
                 }
             }
         }
@@ -129,21 +111,21 @@ public final class PromisesTest {
 
     private static void promise2ReadOfRebuilt() {
         ParityDisks x = new ParityDisks();
-        fillStripe(x, 0);
-        fillStripe(x, 2);
+        Stripes.fill(x, 0);
+        Stripes.fill(x, 2);
         x.fail(1);
         x.replace(1);
-        Due.answers("2: read(0, 0), replaced", number(0, 0), () -> x.read(0, 0));
+        Due.answers("2: read(0, 0), replaced", Stripes.number(0, 0), () -> x.read(0, 0));
         x.rebuild(1, 2);
         x.flip(1, 0, 0, 1);
         x.flip(1, 2, 0, 1);
-        Due.answers("2: read(0, 0) before where it is rebuilt", number(0, 0) ^ 1, () -> x.read(0, 0));
-        Due.answers("2: read(9, 0) at where it is rebuilt", number(9, 0), () -> x.read(9, 0));
+        Due.answers("2: read(0, 0) before where it is rebuilt", Stripes.number(0, 0) ^ 1, () -> x.read(0, 0));
+        Due.answers("2: read(9, 0) at where it is rebuilt", Stripes.number(9, 0), () -> x.read(9, 0));
         x.fail(3);
-        Due.answers("2: read(2, 0), one failed", number(2, 0) ^ 1, () -> x.read(2, 0));
+        Due.answers("2: read(2, 0), one failed", Stripes.number(2, 0) ^ 1, () -> x.read(2, 0));
         Due.refusesLost("2: read(9, 0), another failed", () -> x.read(9, 0));
         Due.refusesLost("2: read(10, 1), another failed", () -> x.read(10, 1));
-        Due.answers("2: read(8, 1), sound", number(8, 1), () -> x.read(8, 1));
+        Due.answers("2: read(8, 1), sound", Stripes.number(8, 1), () -> x.read(8, 1));
     }
 
     private static void promise2ReadWrong() {
@@ -164,19 +146,18 @@ public final class PromisesTest {
     }
 
     private static void promise3PlacesGoAround() {
-        int[][] disksOfPlaces = {{1, 2, 3, 4}, {0, 2, 3, 4}, {0, 1, 3, 4}, {0, 1, 2, 4}, {0, 1, 2, 3}};
         for (int stripe = 0; stripe < 100; stripe++) {
             ParityDisks x = new ParityDisks();
-            fillStripe(x, stripe);
+            Stripes.fill(x, stripe);
             int s = stripe;
             for (int half = 0; half < 2; half++) {
                 int h = half;
                 for (int order = 0; order < 4; order++) {
-                    int disk = disksOfPlaces[stripe % 5][order];
+                    int disk = Stripes.diskOf(4 * s + order);
                     Due.answers("3: block(" + disk + ", " + s + ", " + h + ")",
-                        number(4 * s + order, h), () -> x.block(disk, s, h));
+                        Stripes.number(4 * s + order, h), () -> x.block(disk, s, h));
                 }
-                Due.answers("3: parity of stripe " + s, parityOf(s, h), () -> x.block(s % 5, s, h));
+                Due.answers("3: parity of stripe " + s, Stripes.parityOf(s, h), () -> x.block(s % 5, s, h));
             }
             Due.answers("3: scrub()", 0, x::scrub);
         }
@@ -208,18 +189,18 @@ public final class PromisesTest {
 
     private static void promise3PlaceCannotBeUsed() {
         ParityDisks x = new ParityDisks();
-        fillStripe(x, 0);
+        Stripes.fill(x, 0);
         x.fail(1);
         Due.passes("3: write(0, 0, 9)", () -> x.write(0, 0, 9));
         Due.answers("3: read(0, 0)", 9, () -> x.read(0, 0));
-        Due.answers("3: read(0, 1)", number(0, 1), () -> x.read(0, 1));
-        Due.answers("3: parity", parityOf(0, 0) ^ number(0, 0) ^ 9, () -> x.block(0, 0, 0));
-        Due.answers("3: the others stay", number(1, 0), () -> x.block(2, 0, 0));
+        Due.answers("3: read(0, 1)", Stripes.number(0, 1), () -> x.read(0, 1));
+        Due.answers("3: parity", Stripes.parityOf(0, 0) ^ Stripes.number(0, 0) ^ 9, () -> x.block(0, 0, 0));
+        Due.answers("3: the others stay", Stripes.number(1, 0), () -> x.block(2, 0, 0));
     }
 
     private static void promise3ParityCannotBeUsed() {
         ParityDisks x = new ParityDisks();
-        fillStripe(x, 0);
+        Stripes.fill(x, 0);
         x.fail(0);
         Due.passes("3: write(0, 0, 9)", () -> x.write(0, 0, 9));
         Due.answers("3: block(1, 0, 0)", 9, () -> x.block(1, 0, 0));
@@ -227,7 +208,7 @@ public final class PromisesTest {
         Due.passes("3: write(1, 0, 10)", () -> x.write(1, 0, 10));
         Due.answers("3: parity not yet rebuilt is not written", 0, () -> x.block(0, 0, 0));
         x.rebuild(0, 1);
-        Due.answers("3: parity rebuilt", 9 ^ 10 ^ number(2, 0) ^ number(3, 0), () -> x.block(0, 0, 0));
+        Due.answers("3: parity rebuilt", 9 ^ 10 ^ Stripes.number(2, 0) ^ Stripes.number(3, 0), () -> x.block(0, 0, 0));
         x.fail(0);
         x.fail(4);
         Due.passes("3: write(0, 0, 11), two failed", () -> x.write(0, 0, 11));
@@ -236,27 +217,27 @@ public final class PromisesTest {
 
     private static void promise3AnotherPlaceCannotBeUsed() {
         ParityDisks x = new ParityDisks();
-        fillStripe(x, 0);
+        Stripes.fill(x, 0);
         x.fail(2);
         x.fail(3);
         Due.passes("3: write(0, 0, 9)", () -> x.write(0, 0, 9));
         Due.answers("3: block(1, 0, 0)", 9, () -> x.block(1, 0, 0));
-        Due.answers("3: parity", parityOf(0, 0) ^ number(0, 0) ^ 9, () -> x.block(0, 0, 0));
+        Due.answers("3: parity", Stripes.parityOf(0, 0) ^ Stripes.number(0, 0) ^ 9, () -> x.block(0, 0, 0));
     }
 
     private static void promise3Refused() {
         ParityDisks x = new ParityDisks();
-        fillStripe(x, 0);
+        Stripes.fill(x, 0);
         x.fail(1);
         x.fail(2);
         Due.refusesLost("3: write(0, 0, 9), what it had is lost", () -> x.write(0, 0, 9));
         Due.refusesLost("3: write(1, 1, 9), what it had is lost", () -> x.write(1, 1, 9));
-        Due.answers("3: parity after a refusal", parityOf(0, 0), () -> x.block(0, 0, 0));
-        Due.answers("3: parity after a refusal", parityOf(0, 1), () -> x.block(0, 0, 1));
+        Due.answers("3: parity after a refusal", Stripes.parityOf(0, 0), () -> x.block(0, 0, 0));
+        Due.answers("3: parity after a refusal", Stripes.parityOf(0, 1), () -> x.block(0, 0, 1));
         x.replace(1);
         Due.refusesLost("3: write(0, 0, 9), replaced", () -> x.write(0, 0, 9));
         Due.answers("3: the place after a refusal", 0, () -> x.block(1, 0, 0));
-        Due.answers("3: parity after a refusal", parityOf(0, 0), () -> x.block(0, 0, 0));
+        Due.answers("3: parity after a refusal", Stripes.parityOf(0, 0), () -> x.block(0, 0, 0));
 
         ParityDisks y = new ParityDisks();
         y.fail(0);
@@ -271,7 +252,7 @@ public final class PromisesTest {
 
     private static void promise3OnRebuilt() {
         ParityDisks x = new ParityDisks();
-        fillStripe(x, 2);
+        Stripes.fill(x, 2);
         x.fail(1);
         x.replace(1);
         x.rebuild(1, 2);
@@ -281,7 +262,7 @@ public final class PromisesTest {
         x.write(9, 0, 22);
         Due.answers("3: block(1, 2, 0) at where it is rebuilt", 0, () -> x.block(1, 2, 0));
         Due.answers("3: block(2, 2, 0), its parity",
-            parityOf(2, 0) ^ number(9, 0) ^ 22, () -> x.block(2, 2, 0));
+            Stripes.parityOf(2, 0) ^ Stripes.number(9, 0) ^ 22, () -> x.block(2, 2, 0));
         Due.answers("3: read(9, 0)", 22, () -> x.read(9, 0));
         x.rebuild(1, 1);
         Due.answers("3: block(1, 2, 0), rebuilt", 22, () -> x.block(1, 2, 0));
@@ -408,7 +389,7 @@ public final class PromisesTest {
             int[] stripes = {0, 1, 2, 3, 4, 5, 98, 99};
             long[] stood = new long[2 * stripes.length];
             for (int i = 0; i < stripes.length; i++) {
-                fillStripe(x, stripes[i]);
+                Stripes.fill(x, stripes[i]);
                 stood[2 * i] = x.block(disk, stripes[i], 0);
                 stood[2 * i + 1] = x.block(disk, stripes[i], 1);
             }
@@ -453,8 +434,8 @@ public final class PromisesTest {
 
     private static void promise6RebuildUnderTwoRebuilt() {
         ParityDisks x = new ParityDisks();
-        fillStripe(x, 8);
-        fillStripe(x, 9);
+        Stripes.fill(x, 8);
+        Stripes.fill(x, 9);
         x.fail(1);
         x.replace(1);
         x.rebuild(1, 9);
@@ -465,7 +446,7 @@ public final class PromisesTest {
         Due.answers("6: rebuild(1, 95)", 9, () -> x.rebuild(1, 95));
         Due.answers("6: state(1)", 11, () -> x.state(1));
         Due.answers("6: state(2)", 11, () -> x.state(2));
-        Due.answers("6: block(2, 8, 0)", number(34, 0), () -> x.block(2, 8, 0));
+        Due.answers("6: block(2, 8, 0)", Stripes.number(34, 0), () -> x.block(2, 8, 0));
         Due.answers("6: block(2, 9, 0), lost", 0, () -> x.block(2, 9, 0));
         Due.answers("6: scrub()", 0, x::scrub);
     }
@@ -566,8 +547,8 @@ public final class PromisesTest {
 
     private static void promise9Scrub() {
         ParityDisks x = new ParityDisks();
-        fillStripe(x, 0);
-        fillStripe(x, 6);
+        Stripes.fill(x, 0);
+        Stripes.fill(x, 6);
         x.flip(0, 0, 0, 1);
         x.flip(0, 0, 1, 2);
         x.flip(4, 6, 1, 4);
@@ -575,11 +556,11 @@ public final class PromisesTest {
         x.flip(1, 50, 0, 16);
         x.flip(2, 50, 0, 16);
         Due.answers("9: scrub()", 3, x::scrub);
-        Due.answers("9: parity flipped in both halves", parityOf(0, 0), () -> x.block(0, 0, 0));
-        Due.answers("9: parity flipped in both halves", parityOf(0, 1), () -> x.block(0, 0, 1));
-        Due.answers("9: a flipped place stays", number(27, 1) ^ 4, () -> x.block(4, 6, 1));
-        Due.answers("9: parity takes it in", parityOf(6, 1) ^ 4, () -> x.block(1, 6, 1));
-        Due.answers("9: the other half stays", parityOf(6, 0), () -> x.block(1, 6, 0));
+        Due.answers("9: parity flipped in both halves", Stripes.parityOf(0, 0), () -> x.block(0, 0, 0));
+        Due.answers("9: parity flipped in both halves", Stripes.parityOf(0, 1), () -> x.block(0, 0, 1));
+        Due.answers("9: a flipped place stays", Stripes.number(27, 1) ^ 4, () -> x.block(4, 6, 1));
+        Due.answers("9: parity takes it in", Stripes.parityOf(6, 1) ^ 4, () -> x.block(1, 6, 1));
+        Due.answers("9: the other half stays", Stripes.parityOf(6, 0), () -> x.block(1, 6, 0));
         Due.answers("9: parity of the last stripe", 0, () -> x.block(4, 99, 0));
         Due.answers("9: flips that undo each other", 16, () -> x.block(1, 50, 0));
         Due.answers("9: flips that undo each other", 16, () -> x.block(2, 50, 0));
